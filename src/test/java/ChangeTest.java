@@ -97,6 +97,7 @@ public final class ChangeTest {
         Due.is("leave(-1)", x.leave(-1), TokenDoors.BAD);
         Due.is("leave(4)", x.leave(4), TokenDoors.BAD);
         Due.is("rule(5)", x.rule(5), 7);
+        Due.is("leave(3)", x.leave(3), 3);
         Due.is("leave(2)", x.leave(2), 3);
         Due.is("rule(5)", x.rule(5), 3);
         Due.is("leave(0)", x.leave(0), 2);

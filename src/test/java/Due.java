@@ -57,8 +57,8 @@ final class Due {
         is("fault() of '" + bytes + "'", x.fault(), fault);
     }
 
-    /** All that can be asked without an effect, as one text: two objects in the same state tell the same. */
-    static String state(TokenDoors x) {
+    /** DOORS, CROWDS, TICK, LET, TURNED, as one text. */
+    static String hall(TokenDoors x) {
         StringBuilder all = new StringBuilder();
         for (int what = 0; what <= 6; what++) {
             all.append(x.rule(what)).append(' ');
@@ -67,12 +67,20 @@ final class Due {
             for (int what = 0; what <= 4; what++) {
                 all.append(x.door(d, what)).append(' ');
             }
-            all.append(x.kinds(d)).append(' ').append(x.depths(d)).append(' ').append(x.rates(d)).append(' ');
         }
         for (int i = 0; i < 8; i++) {
             for (int what = 0; what <= 2; what++) {
                 all.append(x.crowd(i, what)).append(' ');
             }
+        }
+        return all.toString();
+    }
+
+    /** All that can be asked without an effect, as one text; the last two are fault() and torn(). */
+    static String state(TokenDoors x) {
+        StringBuilder all = new StringBuilder(hall(x));
+        for (int d = 0; d < 4; d++) {
+            all.append(x.kinds(d)).append(' ').append(x.depths(d)).append(' ').append(x.rates(d)).append(' ');
         }
         for (int what = 0; what <= 5; what++) {
             all.append(x.count(what)).append(' ');

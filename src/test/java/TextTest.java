@@ -57,8 +57,19 @@ public final class TextTest {
         Due.is("end(9)", x.end(9), 10);
         Due.is("count(2)", x.count(2), 9);
         Due.is("text()", x.text(), 1);
+        ended(x, "tokenx", 5, -15, 2);
+        ended(x, "leak 1 12", 8, -18, 2);
+        ended(x, "leak   ", 5, -15, 2);
         Due.is("end(0)", x.end(0), 0);
         Due.is("end(1) of nothing", x.end(1), TokenDoors.BAD);
+    }
+
+    /** What was on the tape behind its end is not read. */
+    private static void ended(TokenDoors x, String bytes, int n, int answer, int fault) {
+        Due.feed(x, bytes);
+        Due.is("end(" + n + ")", x.end(n), bytes.length());
+        Due.is("text() of the first " + n + " of '" + bytes + "'", x.text(), answer);
+        Due.is("fault()", x.fault(), fault);
     }
 
     private static void textsTaken() {
@@ -86,6 +97,14 @@ public final class TextTest {
         Due.text(" 12;", -11, 2);
         Due.text("tokens 1 1;", -10, 2);
         Due.text("toke 1 1;", -10, 2);
+        Due.text("xoken 1 1;", -10, 2);
+        Due.text("az 1 1;", -10, 2);
+        Due.text("z 1 1;", -10, 2);
+        Due.text("token a 1;", -16, 2);
+        Due.text("token `1;", -16, 1);
+        Due.text("token {1;", -16, 1);
+        Due.text("token /1;", -16, 1);
+        Due.text("token :1;", -16, 1);
         Due.text("tokenleak 1 1;", -10, 2);
         Due.text("token leak 1 1;", -16, 2);
         Due.text("token;", -15, 2);
@@ -97,6 +116,11 @@ public final class TextTest {
         Due.text("token 1 1;;", -20, 2);
         Due.text("crowd 1 1 1 1;", -22, 2);
         Due.text("crowd 1 1", -19, 2);
+        Due.text("crowd", -15, 2);
+        Due.text("crowd;", -15, 2);
+        Due.text("crowd x 1 1;", -16, 2);
+        Due.text("crowd 100 1 1;", -16, 1);
+        Due.text("crowd 1 ; 1;", -18, 2);
         Due.text("leak 0 1;", -15, 3);
         Due.text("leak 10 1;", -15, 3);
         Due.text("window 1 10;", -19, 3);

@@ -6,6 +6,7 @@ public final class TicksTest {
         ticksRun();
         ticksEnd();
         byTicks();
+        countedAnew();
         runsWrong();
         firstTurned();
         Due.finish();
@@ -105,6 +106,21 @@ public final class TicksTest {
         }
         Due.is("when()", x.when(), 0);
         Due.holds("BY TICKS changes nothing", Due.state(x).equals(before));
+    }
+
+    private static void countedAnew() {
+        TokenDoors x = Due.told("window 2 1;crowd 0 3 1;");
+        x.ticks(10);
+        Due.is("rule(3)", x.rule(3), 20);
+        Due.is("rule(4)", x.rule(4), 10);
+        int[] due = {4, 2, 2, 1, 0};
+        for (int what = 0; what <= 4; what++) {
+            Due.is("behind ten runs(2, " + what + ")", x.runs(2, what), due[what]);
+        }
+        Due.is("turns(0, 2)", x.turns(0, 2), 2);
+        Due.is("when()", x.when(), 0);
+        x.leave(0);
+        Due.is("when() of nobody", x.when(), TokenDoors.NONE);
     }
 
     private static void runsWrong() {
