@@ -121,6 +121,10 @@ public final class TicksTest {
         Due.is("when()", x.when(), 0);
         x.leave(0);
         Due.is("when() of nobody", x.when(), TokenDoors.NONE);
+        TokenDoors y = Due.told("token 9 1;token 7 1;token 5 1;token 3 1;");
+        Due.is("all four HOLD", y.runs(1, 4), 24);
+        y.cut(2);
+        Due.is("those that are left HOLD", y.runs(1, 4), 16);
     }
 
     private static void runsWrong() {
