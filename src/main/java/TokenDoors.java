@@ -443,10 +443,10 @@ public final class TokenDoors {
         }
         Sheet source = sheets[k];
         int before = now.crowdCount;
-        int found = source.faultAs(lane);
+        int found = 0;
         for (int i = 0; i < n && found == 0; i++) {
             int first = f + 3 * i;
-            found = source.faultInThree(first);
+            found = source.faultInThree(lane, first);
             if (found == 0 && !comesFrom(source, first)) {
                 now.crowdCount = before;
                 return REFUSED_BASE - i;
@@ -511,12 +511,9 @@ public final class TokenDoors {
             && every >= 0 && every <= MOST_EVERY;
     }
 
-    /** What a door holds has no upper bound here: above its depth it is a matter of its state. */
+    /** Asks of any door at all: that one holds more than its own depth is a matter of its state. */
     private static boolean mayBecome(int what, int v) {
-        if (what < KIND || what > HOLDS || v < lowest(what)) {
-            return false;
-        }
-        return what == HOLDS || v <= highest(what);
+        return what >= KIND && what <= HOLDS && v >= lowest(what) && v <= highest(what);
     }
 
     private static int lowest(int what) {
@@ -527,7 +524,7 @@ public final class TokenDoors {
         if (what == KIND) {
             return HALF;
         }
-        return what == DEPTH ? MOST_DEPTH : MOST_RATE;
+        return what == RATE ? MOST_RATE : MOST_DEPTH;
     }
 
     // ---- trials
@@ -1176,12 +1173,11 @@ public final class TokenDoors {
             return i < 0 || i >= size ? INDEX_FAULT : 0;
         }
 
-        /** Nothing may be taken as of any lane: only its cells are refused. */
-        int faultAs(int wanted) {
-            return laid && lane != wanted ? CAST_FAULT : 0;
-        }
-
-        int faultInThree(int first) {
+        /** The row is taken as of a lane before its cells are touched; nothing may be taken as of any. */
+        int faultInThree(int wanted, int first) {
+            if (laid && lane != wanted) {
+                return CAST_FAULT;
+            }
             int found = faultAt(first);
             return found != 0 ? found : faultAt(first + 2);
         }

@@ -34,13 +34,17 @@ public final class ChangeTest {
         String before = Due.state(x);
         int[][] bad = {
             {-1, 0, 0}, {1, 0, 0}, {0, -1, 0}, {0, 4, 0}, {0, 0, -1}, {0, 0, 4}, {0, 1, 0}, {0, 1, 10},
-            {0, 2, -1}, {0, 2, 10}, {0, 3, -1}, {1, 3, 9}};
+            {0, 2, -1}, {0, 2, 10}, {0, 3, -1}, {1, 3, 9}, {0, 3, 10}, {0, 3, 675056176},
+            {0, 3, Integer.MAX_VALUE}, {0, 3, Integer.MIN_VALUE}};
         for (int[] b : bad) {
             Due.is("alter(" + b[0] + ", " + b[1] + ", " + b[2] + ")", x.alter(b[0], b[1], b[2]), TokenDoors.BAD);
         }
         Due.is("alter(0, 3, 5)", x.alter(0, 3, 5), TokenDoors.STATE);
-        Due.is("alter(0, 3, 10)", x.alter(0, 3, 10), TokenDoors.STATE);
+        Due.is("alter(0, 3, 9): another DOOR may HOLD that", x.alter(0, 3, 9), TokenDoors.STATE);
         Due.holds("what is refused changes nothing", Due.state(x).equals(before));
+        TokenDoors y = Due.told("half 9 3;");
+        Due.is("alter(0, 3, 10) of the deepest", y.alter(0, 3, 10), TokenDoors.BAD);
+        Due.is("alter(0, 3, 9) of the deepest", y.alter(0, 3, 9), 0);
     }
 
     private static void hanging() {

@@ -191,8 +191,7 @@ final class Model {
     }
 
     int alter(int d, int what, int v) {
-        if (noDoor(d) || !in(what, 0, 3) || v < (what == 1 ? 1 : 0)) return BAD;
-        if (what < 3 && v > (what == 0 ? 3 : 9)) return BAD;
+        if (noDoor(d) || !in(what, 0, 3) || !in(v, what == 1 ? 1 : 0, what == 0 ? 3 : 9)) return BAD;
         int[] e = now.doors.get(d);
         if (what == 3 && v > e[1]) return STATE;
         int was = e[what];
@@ -495,14 +494,11 @@ final class Model {
         if (!in(k, 0, 3) || !in(lane, 0, 2) || !in(n, 0, 13)) return BAD;
         int before = now.crowds.size(), came = 0, found = 0;
         try {
-            byte[] bytes = lane == 0 ? (byte[]) sheets[k] : null;
-            short[] shorts = lane == 1 ? (short[]) sheets[k] : null;
-            int[] ints = lane == 2 ? (int[]) sheets[k] : null;
             for (; came < n; came++) {
                 int[] three = new int[3];
                 for (int j = 0; j < 3; j++) {
                     int i = f + 3 * came + j;
-                    three[j] = lane == 0 ? bytes[i] : lane == 1 ? shorts[i] : ints[i];
+                    three[j] = lane == 0 ? ((byte[]) sheets[k])[i] : lane == 1 ? ((short[]) sheets[k])[i] : ((int[]) sheets[k])[i];
                 }
                 if (come(three[0], three[1], three[2]) < 0) {
                     leave(before);

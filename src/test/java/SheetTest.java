@@ -6,6 +6,7 @@ public final class SheetTest {
         laying();
         reading();
         readingTorn();
+        readingNone();
         readingRefused();
         readingFull();
         tornOfTheLatest();
@@ -154,8 +155,25 @@ public final class SheetTest {
         Due.is("a row of nothing", x.sheet(2, 2, 0), 1);
         Due.is("read of it", x.read(2, 2, 0, 1), 0);
         Due.is("INDEX", x.torn(), 2);
-        Due.is("none is read of it", x.read(2, 2, 0, 0), 0);
-        Due.is("no FAULT", x.torn(), 0);
+    }
+
+    /** Of 0 CROWDS no CELL is touched: there is no FAULT, and one that was found before is gone. */
+    private static void readingNone() {
+        TokenDoors x = laid(0, 0, 1, 1);
+        x.sheet(2, 2, 0);
+        int[][] none = {{0, 0, 0}, {0, 0, -1}, {0, 0, 99}, {0, 1, 0}, {0, 2, -1}, {1, 0, 0}, {2, 2, 0}, {2, 0, 99}};
+        for (int[] r : none) {
+            x.read(0, 1, 0, 1);
+            Due.is("CAST", x.torn(), 3);
+            String call = "read(" + r[0] + ", " + r[1] + ", " + r[2] + ", 0)";
+            Due.is(call, x.read(r[0], r[1], r[2], 0), 0);
+            Due.is("torn() behind " + call, x.torn(), 0);
+        }
+        Due.is("rule(1)", x.rule(1), 0);
+        x.read(0, 1, 0, 1);
+        Due.is("read(0, 3, 0, 0)", x.read(0, 3, 0, 0), TokenDoors.BAD);
+        Due.is("read(4, 0, 0, 0)", x.read(4, 0, 0, 0), TokenDoors.BAD);
+        Due.is("torn() behind BAD", x.torn(), 3);
     }
 
     private static void readingRefused() {
