@@ -1,21 +1,27 @@
 /** Counts the calls whose answer is not the one that is due, and prints each of them. */
 final class Due {
     private static int wrong = 0;
+    private static String topic = "";
 
     private Due() {
+    }
+
+    /** Names the test whose calls follow. */
+    static void about(String test) {
+        topic = test + ": ";
     }
 
     static void is(String call, long got, long want) {
         if (got != want) {
             wrong++;
-            System.out.println(call + " answered " + got + ", due is " + want);
+            System.out.println(topic + call + " answered " + got + ", due is " + want);
         }
     }
 
     static void holds(String what, boolean stands) {
         if (!stands) {
             wrong++;
-            System.out.println("does not hold: " + what);
+            System.out.println(topic + "does not hold: " + what);
         }
     }
 
