@@ -218,10 +218,13 @@ public final class SeenEdgesTest {
     @Sentence(promise = 34, says = "so that of rates() of a DOOR fewest are left at the worst, fewer than now")
     static void p34FewerThanNow() {
         TokenDoors x = Due.told("token 9 5;crowd 0 9 1;");
-        ask(x, 1, 1);
-        x.see(1, 5);
-        Due.is("rates(0): one", x.rates(0), 1 << 5);
-        ask(x, NONE, NONE);
+        for (int rate = 0; rate <= 9; rate++) {
+            x.forget(0);
+            ask(x, 1, 1);
+            x.see(1, rate);
+            Due.is("rates(0): one", x.rates(0), 1 << rate);
+            ask(x, NONE, NONE);
+        }
         x.see(1, 6);
         Due.is("rates(0): none", x.rates(0), 0);
         ask(x, NONE, NONE);

@@ -115,10 +115,17 @@ public final class TapeEdgesTest {
             Due.text(name + "s 1 1;", -10, 2);
             Due.text(name.substring(1) + " 1 1;", -10, 2);
             Due.text(name.substring(0, name.length() - 1) + " 1 1;", -10, 2);
-            Due.text(name.substring(0, name.length() - 1) + "a 1 1;", -10, 2);
+            everyLetterCounts(name, " 1 1;");
         }
         Due.text("crow 1 1 1;", -10, 2);
         Due.text("crowds 1 1 1;", -10, 2);
+        everyLetterCounts("crowd", " 1 1 1;");
+    }
+
+    private static void everyLetterCounts(String name, String behind) {
+        for (int i = 0; i < name.length(); i++) {
+            Due.text(name.substring(0, i) + 'z' + name.substring(i + 1) + behind, -10, 2);
+        }
     }
 
     @Sentence(promise = 0, says = "K: a DOOR more of that KIND: DEPTH, RATE. crowd: a CROWD more: TICK, MANY, EVERY.")

@@ -318,8 +318,9 @@ public final class TermsEdgesTest {
     static void termsTickLetTurned0AtFirst() {
         TokenDoors x = new TokenDoors();
         TokenDoors y = Due.told("leak 1 0;crowd 0 9 1;");
-        TokenDoors z = Due.told("leak 1 0;crowd 0 9 1;");
+        TokenDoors z = Due.told("leak 1 1;crowd 0 9 1;");
         z.ticks(9);
+        z.runs(9, 0);
         Due.tell(z, "leak 1 0;crowd 0 9 1;");
         for (int what = 2; what <= 4; what++) {
             Due.is("new: rule(" + what + ")", x.rule(what), 0);
